@@ -433,11 +433,11 @@ public final class Resetline {
         }
 
         int startOf(int period) {
-            return boundAt(period);
+            return period >= 0 && period < bounds.length ? bounds[period] : NONE;
         }
 
         int endOf(int period) {
-            return boundAt(period + 1);
+            return startOf(period + 1);
         }
 
         int lotsOf(int period) {
@@ -456,13 +456,16 @@ public final class Resetline {
             if (compounding == SIMPLE) {
                 return (rateOf(period, fixings) + spread) * daysOf(period);
             }
+            int spreadIn = compounding == SPREAD_IN ? spread : 0;
+            int spreadBeside = spread - spreadIn;
             long compounded = 0;
             long growth = 0;
             for (int i = 0; i <= period && i < periods; i++) {
-                growth = growthOf(i, compounded, fixings);
+                long rate = rateOf(i, fixings) + spreadIn;
+                growth = Math.floorDiv((LOT + compounded) * rate * daysOf(i), LOT);
                 compounded += growth;
             }
-            return compounding == SPREAD_BESIDE ? growth + spread * daysOf(period) : growth;
+            return growth + spreadBeside * daysOf(period);
         }
 
         long flowOf(int period, Diary fixings) {
@@ -518,21 +521,12 @@ public final class Resetline {
             return hasPeriod;
         }
 
-        private int boundAt(int index) {
-            return index >= 0 && index < bounds.length ? bounds[index] : NONE;
-        }
-
         private long daysOf(int period) {
-            return dayCount == 0 ? endOf(period) - startOf(period) : length;
+            return dayCount == 0 ? startOf(period + 1) - startOf(period) : length;
         }
 
         private long rateOf(int period, Diary fixings) {
             return fixings.latestValue(startOf(period), 0);
-        }
-
-        private long growthOf(int period, long compounded, Diary fixings) {
-            long rate = rateOf(period, fixings) + (compounding == SPREAD_IN ? spread : 0);
-            return Math.floorDiv((LOT + compounded) * rate * daysOf(period), LOT);
         }
     }
 }

@@ -45,13 +45,19 @@ final class Checks {
         }
     }
 
+    /** Only a throw statement of the program makes an exception whose trace begins in its code. */
+    static boolean isThrownByProgram(RuntimeException e) {
+        StackTraceElement[] trace = e.getStackTrace();
+        return trace.length > 0 && trace[0].getClassName().equals("Resetline");
+    }
+
     // The very class is asked for: a subclass would be one that the machine throws by itself.
     private void throwsOnly(String what, Class<?> due, Call call) {
         made++;
         try {
             call.run();
         } catch (RuntimeException e) {
-            if (e.getClass() != due) {
+            if (e.getClass() != due || !isThrownByProgram(e)) {
                 fail(what + " threw " + e + ", due is " + due.getName());
             }
             return;

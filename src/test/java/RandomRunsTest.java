@@ -135,16 +135,17 @@ final class RandomRunsTest {
 
     /** Null if both answer or throw the same. */
     private static String compare(String call, LongSupplier office, LongSupplier oracle) {
-        String got = answerOf(office);
-        String due = answerOf(oracle);
+        String got = answerOf(office, true);
+        String due = answerOf(oracle, false);
         return got.equals(due) ? null : call + " answered " + got + ", due is " + due;
     }
 
-    private static String answerOf(LongSupplier call) {
+    private static String answerOf(LongSupplier call, boolean ofProgram) {
         try {
             return Long.toString(call.getAsLong());
         } catch (RuntimeException e) {
-            return e.getClass().getName();
+            boolean foreign = ofProgram && !Checks.isThrownByProgram(e);
+            return e.getClass().getName() + (foreign ? ", not by its own throw" : "");
         }
     }
 
