@@ -491,6 +491,13 @@ final class PromisesTest {
         x.setTerms(0, 500, 1, Resetline.SPREAD_IN);
         x.fix(0, -500);
         checks.same("an earlier rate is replaced", x.floating(0, 1), 90000);
+        Resetline y = new Resetline();
+        y.fix(0, 1000);
+        y.trade(0, 1, true, 0, 0, 5, 2);
+        y.setTerms(0, 0, 0, Resetline.SPREAD_IN);
+        // 7 days, then 3: 7000; 3607000 * 3000 / 3600000 is 3005.8..
+        checks.same("each period grows by its own days, period 0", y.floating(0, 0), 7000);
+        checks.same("each period grows by its own days, period 1", y.floating(0, 1), 3005);
     }
 
     private static void promise16FloatingRoundsDown() {
