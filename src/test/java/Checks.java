@@ -33,6 +33,15 @@ final class Checks {
         throwsOnly(what, IllegalStateException.class, call);
     }
 
+    void taken(String what, Call call) {
+        made++;
+        try {
+            call.run();
+        } catch (RuntimeException e) {
+            fail(what + " threw " + e + ", due is an answer");
+        }
+    }
+
     void fail(String text) {
         wrong++;
         System.out.println(text);
@@ -52,7 +61,7 @@ final class Checks {
     }
 
     // The very class is asked for: a subclass would be one that the machine throws by itself.
-    private void throwsOnly(String what, Class<?> due, Call call) {
+    void throwsOnly(String what, Class<? extends RuntimeException> due, Call call) {
         made++;
         try {
             call.run();

@@ -42,8 +42,9 @@ final class PromisesTest {
         Resetline x = new Resetline();
         checks.same("trades of a new office", x.trades(), 0);
         for (int day = 0; day <= 3000; day++) {
-            checks.same("isOpen " + day, x.isOpen(day) ? 1 : 0, day % 7 < 5 ? 1 : 0);
-            checks.same("rateFor " + day, x.rateFor(day), 0);
+            Resetline fresh = new Resetline();
+            checks.same("isOpen " + day, fresh.isOpen(day) ? 1 : 0, day % 7 < 5 ? 1 : 0);
+            checks.same("rateFor " + day, fresh.rateFor(day), 0);
         }
         for (int party = 0; party <= 3; party++) {
             checks.same("nextFlow of a new office", x.nextFlow(party, 0), Resetline.NONE);
@@ -371,6 +372,17 @@ final class PromisesTest {
     }
 
     private static void promise11PressKeepsCash() {
+        for (int party = 0; party < 4; party++) {
+            Resetline x = officeToPress();
+            Resetline y = officeToPress();
+            checks.same("pressed", y.press(40), 9);
+            for (int day = 0; day < 200; day++) {
+                checks.same("cash " + party + " " + day, y.cash(party, day), x.cash(party, day));
+            }
+        }
+    }
+
+    private static Resetline officeToPress() {
         Resetline x = new Resetline();
         x.fix(0, 333);
         x.fix(40, -77);
@@ -382,20 +394,7 @@ final class PromisesTest {
             x.setTerms(trade, 15, 0, Resetline.SPREAD_BESIDE);
             x.handOver(trade, 50, 1);
         }
-        long[] before = cashOfAllDays(x);
-        checks.same("pressed", x.press(40), 9);
-        long[] after = cashOfAllDays(x);
-        for (int i = 0; i < before.length; i++) {
-            checks.same("cash " + i / 200 + " " + i % 200, after[i], before[i]);
-        }
-    }
-
-    private static long[] cashOfAllDays(Resetline x) {
-        long[] cash = new long[4 * 200];
-        for (int i = 0; i < cash.length; i++) {
-            cash[i] = x.cash(i / 200, i % 200);
-        }
-        return cash;
+        return x;
     }
 
     private static void promise12Trades() {
